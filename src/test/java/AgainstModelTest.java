@@ -55,6 +55,9 @@ final class AgainstModelTest {
 
         private void due(String call, int got, int want) {
             calls++;
+            if (calls > CALLS) {
+                return; // what later calls answer is free
+            }
             CHECKS.due("seed " + seed + ", call " + calls + ": " + call, got, want);
         }
 
