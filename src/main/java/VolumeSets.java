@@ -186,10 +186,11 @@ public final class VolumeSets {
         if (set < 0 || set > 255) {
             return BAD;
         }
-        opening.told = 0;
         int present = reading.gather(slots, set);
         if (reading.done) {
             opening.open(reading.pieces);
+        } else {
+            opening.told = 0;
         }
         return present;
     }
@@ -232,9 +233,6 @@ public final class VolumeSets {
     }
 
     public int opened(int k, int what) {
-        if (k < 0 || k >= opening.told) {
-            return BAD;
-        }
         return opening.tellOf(k, what);
     }
 

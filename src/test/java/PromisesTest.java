@@ -20,6 +20,7 @@ final class PromisesTest {
         promise8Heads();
         promise8Repairs();
         promise8Edges();
+        promise8Most();
         promise9Power();
         promise9Places();
         promise9Full();
@@ -418,6 +419,21 @@ final class PromisesTest {
     }
 
     private static void promise8Edges() {
+        // An ENTRY that begins just behind a PIECE does not begin in it.
+        VolumeSets z = new VolumeSets();
+        addEntry(z, 37, 1);
+        z.entry();
+        due("8: START of VOLUME 1", z.byteOf(1, 7), 255);
+        due("8: START of VOLUME 2", z.byteOf(2, 7), 0);
+        // What was cut into more PIECES leaves nothing behind.
+        z.rule(1, 2);
+        z.rule(0, 20);
+        due("8: volumes() at SIZE 20", z.volumes(), 8);
+        z.byteOf(0, 0);
+        z.rule(0, 50);
+        for (int i : new int[] {6, 7, 12, 49}) {
+            due("8: byteOf(3, " + i + ")", z.byteOf(3, i), z.byteOf(0, i) ^ times(2, z.byteOf(1, i)));
+        }
         VolumeSets x = new VolumeSets();
         x.rule(1, 1);
         due("8: byteOf(0, 31)", x.byteOf(0, 31), 0);
@@ -443,6 +459,34 @@ final class PromisesTest {
         due("8: byteOf(-1, 0), FULL goes ahead", x.byteOf(-1, 0), FULL);
         due("8: byteOf(0, 99), FULL goes ahead", x.byteOf(0, 99), FULL);
         due("8: nothing is written by it", x.count(3), 0);
+    }
+
+    /** The longest STREAM: 1,260 bytes, at SIZE 33 in just 60 PIECES. */
+    private static void promise8Most() {
+        VolumeSets x = new VolumeSets();
+        for (int k = 0; k < 20; k++) {
+            addEntry(x, 60, 10 * k);
+        }
+        due("8: bytes of THE STREAM", x.count(1), 1260);
+        due("8: volumes() at SIZE 32", x.volumes(), FULL);
+        x.rule(0, 33);
+        due("8: volumes() at SIZE 33", x.volumes(), 60);
+        due("8: byteOf(59, 3)", x.byteOf(59, 3), 59);
+        due("8: byteOf(59, 32)", x.byteOf(59, 32), 249);
+        due("8: byteOf(60, 0)", x.byteOf(60, 0), BAD);
+        due("9: write(-1) of 60", x.write(-1), 60);
+        x.lose(0);
+        due("15: read(0)", x.read(0), 59);
+        due("18: got(1259)", x.got(1259), 249);
+        due("18: got(1260)", x.got(1260), BAD);
+        due("16: found(5)", x.found(5), 19);
+        due("19: opened(18, 0)", x.opened(18, 0), 1197);
+        x.rule(0, 80);
+        x.rule(1, 3);
+        due("8: volumes() at SIZE 80, with 3 REPAIRS", x.volumes(), 22);
+        due("8: byteOf(18, 6)", x.byteOf(18, 6), 1260 - 18 * 68);
+        due("8: byteOf(18, 47)", x.byteOf(18, 47), 249);
+        due("8: byteOf(18, 48)", x.byteOf(18, 48), 0);
     }
 
     // ---- slots
@@ -509,6 +553,8 @@ final class PromisesTest {
         due("9: a spoilt one is written again", x.write(-1), 1);
         due("9: where it is", x.slot(3, 2), 0);
         due("9: the spoilt one stays", x.slot(10, 0), 2);
+        x.poke(3, 0, 1);
+        due("9: one without a HEAD is written again", x.write(-1), 1);
         x.rule(0, 33);
         due("9: another SIZE has other bytes", x.write(-1), 3);
         x.clear();
@@ -545,6 +591,17 @@ final class PromisesTest {
         x.rule(2, 2);
         due("9: write(-1), 4 into 4", x.write(-1), 4);
         due("9: SLOTS that are not empty", x.count(3), 60);
+
+        x.lose(59);
+        x.lose(58);
+        x.lose(57);
+        x.lose(56);
+        x.rule(2, 3);
+        x.rule(1, 1);
+        due("9: write(-1), 4 and a REPAIR into 4", x.write(-1), FULL);
+        due("9: write(4), 4 and a CUT one into 4", x.write(4), FULL);
+        due("9: nothing is written", x.count(3), 56);
+        due("9: write(3), 3 and a CUT one into 4", x.write(3), 3);
 
         VolumeSets y = new VolumeSets();
         y.rule(0, 20);
@@ -884,6 +941,14 @@ final class PromisesTest {
         y.read(0);
         due("16: bytes of a VOLUME", y.found(2), 80);
         due("16: ENTRIES told, there is none", y.found(4), 0);
+        y.rule(2, 1);
+        y.entry();
+        y.write(-1);
+        y.read(1);
+        due("16: ENTRIES told", y.found(4), 1);
+        y.read(0);
+        due("16: ENTRIES told, there is none again", y.found(4), 0);
+        due("16: OPENED, there is none again", y.found(5), 0);
     }
 
     private static void promise17() {
@@ -952,6 +1017,36 @@ final class PromisesTest {
 
     /** Lengths that are changed: at most s - 12 bytes are KNOWN. */
     private static void promise18Lengths() {
+        VolumeSets w = new VolumeSets();
+        w.rule(0, 80);
+        w.write(-1);
+        forgeHead(w, 0, 4, 60);
+        forgeHead(w, 0, 3, 59);
+        forgeHead(w, 0, 6, 68);
+        w.poke(0, 79, 77);
+        seal(w, 0);
+        due("18: read(0), VOLUME 59 of 60", w.read(0), 1);
+        due("18: got(4079)", w.got(4079), 77);
+        due("18: got(4012)", w.got(4012), 0);
+        due("18: got(4011)", w.got(4011), NONE);
+        due("18: got(4080)", w.got(4080), BAD);
+        // In another order of SLOTS, each behind what was longer: no byte goes into the next PIECE.
+        VolumeSets v = new VolumeSets();
+        v.rule(0, 80);
+        v.rule(2, 1);
+        addEntry(v, 60, 1);
+        addEntry(v, 60, 100);
+        v.write(-1);
+        v.lose(0);
+        v.lose(1);
+        v.rule(0, 50);
+        v.write(-1);
+        v.swap(0, 3);
+        v.swap(1, 2);
+        due("18: read(1)", v.read(1), 4);
+        for (int i = 0; i < 126; i++) {
+            due("18: got(" + i + ")", v.got(i), v.byteOf(i / 38, 12 + i % 38));
+        }
         VolumeSets x = four(1, 7);
         forgeHead(x, 0, 6, 7);
         forgeHead(x, 1, 6, 255);
@@ -1042,6 +1137,27 @@ final class PromisesTest {
             w.read(7);
             told("19: a SUM changed: ", w, new int[][] {{0, 45, 1}, {48, 3, 0}, {54, 0, 1}, {57, 20, 1}});
         }
+        // Bytes that are gone are not 0s, even where 0s would have the SUM.
+        VolumeSets r = new VolumeSets();
+        addZeros(r, 47);
+        r.entry();
+        r.write(-1);
+        r.lose(1);
+        r.read(0);
+        told("19: zeros without 1: ", r, new int[][] {{0, 47, 0}, {50, 0, 1}});
+        // A SUM of which one byte, or both, are gone.
+        for (int length = 14; length <= 16; length++) {
+            VolumeSets q = new VolumeSets();
+            addZeros(q, length);
+            q.entry();
+            addEntry(q, 4, 200);
+            q.write(-1);
+            q.lose(1);
+            q.read(0);
+            due("19: found(4), behind " + length + " bytes", q.found(4), 2);
+            due("19: opened(1, 1), behind " + length + " bytes", q.opened(1, 1), 0);
+            due("19: opened(1, 2), behind " + length + " bytes", q.opened(1, 2), length == 14 ? 1 : 0);
+        }
         // A length above 60: LOST, and on to the place behind it.
         VolumeSets u = new VolumeSets();
         addZeros(u, 60);
@@ -1113,6 +1229,23 @@ final class PromisesTest {
         x.read(0);
         // Place 4 * 20 + 25 lies in VOLUME 5, where its byte is an ENTRY's third.
         due("19: a START of 25 is below the length 30", x.opened(4, 0), 105);
+        // The START of one that is MADE AGAIN, when an earlier READING had it too: VOLUME 0 has
+        // a length of 5 in place of 20, and so has then VOLUME 1.
+        VolumeSets v = new VolumeSets();
+        v.rule(1, 1);
+        for (int k = 0; k < 10; k++) {
+            addEntry(v, 8, k);
+        }
+        v.write(-1);
+        forgeHead(v, 0, 6, 5);
+        v.read(0);
+        due("19: opened(1, 0)", v.opened(1, 0), 22);
+        v.lose(1);
+        due("19: read(0)", v.read(0), 6);
+        due("19: MADE AGAIN: opened(1, 0)", v.opened(1, 0), 22);
+        due("19: MADE AGAIN: opened(1, 2)", v.opened(1, 2), 0);
+        due("19: MADE AGAIN: opened(2, 0)", v.opened(2, 0), 44);
+        due("19: MADE AGAIN: opened(2, 2)", v.opened(2, 2), 1);
         // Behind the end all is unknown, and the VOLUME's own START does not count again.
         VolumeSets y = new VolumeSets();
         y.entry();
