@@ -210,12 +210,20 @@ final class AgainstModelTest {
             if (zeros && oneIn(2) && v[7] < v.length - 12) {
                 i = 12 + v[7];
             }
-            int to = zeros && i >= 12 ? 0 : i == 4 ? upTo(62) : i == 5 ? upTo(4) : i == 3 ? upTo(63) : oneIn(2) ? upTo(255) : upTo(30);
-            setByte(slot, i, to);
+            setByte(slot, i, forgedByte(i));
             if (i >= 12) {
                 setSum(slot, 8, Model.sum(v, 12, v.length));
             }
             setSum(slot, 10, Model.sum(v, 0, 10));
+        }
+
+        private int forgedByte(int i) {
+            switch (i) {
+                case 3: return upTo(63);
+                case 4: return upTo(62);
+                case 5: return upTo(4);
+                default: return zeros && i >= 12 ? 0 : oneIn(2) ? upTo(255) : upTo(30);
+            }
         }
 
         private void setSum(int slot, int i, int sum) {

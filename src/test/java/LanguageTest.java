@@ -87,7 +87,8 @@ final class LanguageTest {
             CHECKS.holds(c + ": at most twenty fields", own <= 20);
             for (Method m : c.getDeclaredMethods()) {
                 CHECKS.holds(m + ": at most seven parameters", m.getParameterCount() <= 7);
-                CHECKS.holds(m + ": not the name of a public one", c == VolumeSets.class || !faceNames.contains(m.getName()));
+                CHECKS.holds(m + ": not the name of a public one",
+                    c == VolumeSets.class || !faceNames.contains(m.getName()));
             }
         }
     }
@@ -95,8 +96,8 @@ final class LanguageTest {
     private static void words() throws Exception {
         String code = Files.readString(Path.of(SOURCE)).replaceAll("(?s)/\\*.*?\\*/", "").replaceAll("//[^\n]*", "");
         for (String word : List.of("throw", "throws", "try", "catch", "finally", "synchronized", "assert", "package",
-            "Object", "Random", "Thread", "System\\.(?!arraycopy)", "protected", "->", "::", "float", "double", "Exception",
-            "\\w+Exact", "while \\(true\\)", "for \\(;;\\)", "equals", "hashCode", "toString")) {
+            "Object", "Random", "Thread", "System\\.(?!arraycopy)", "protected", "->", "::", "float", "double",
+            "Exception", "\\w+Exact", "while \\(true\\)", "for \\(;;\\)", "equals", "hashCode", "toString")) {
             boolean plain = word.matches("\\w+");
             Matcher found = Pattern.compile(plain ? "\\b" + word + "\\b" : word).matcher(code);
             CHECKS.holds("no '" + word + "' in the program", !found.find());

@@ -1214,7 +1214,8 @@ final class PromisesTest {
         x.lose(3);
         x.read(0);
         // Place 66 is gone: on to the START of VOLUME 4, at 88.
-        told("19: without 1, 3: ", x, new int[][] {{0, 8, 1}, {11, 8, 0}, {44, 8, 1}, {55, 8, 0}, {88, 8, 1}, {99, 8, 1}});
+        told("19: without 1, 3: ", x, new int[][] {
+            {0, 8, 1}, {11, 8, 0}, {44, 8, 1}, {55, 8, 0}, {88, 8, 1}, {99, 8, 1}});
         forgeHead(x, 4, 7, 255);
         x.read(0);
         told("19: no START in 4: ", x, new int[][] {{0, 8, 1}, {11, 8, 0}, {44, 8, 1}, {55, 8, 0}});
