@@ -1,8 +1,5 @@
 /** Each promise of the document: ordinary inputs, the edges that it names, and wrong inputs. */
-final class PromisesTest {
-    private static final int BAD = VolumeSets.BAD;
-    private static final int NONE = VolumeSets.NONE;
-    private static final int FULL = VolumeSets.FULL;
+final class PromisesTest extends Hands {
     private static final int[] FAR = {Integer.MIN_VALUE, -1000, -2, 1000, Integer.MAX_VALUE};
     private static final Checks CHECKS = new Checks();
 
@@ -54,66 +51,14 @@ final class PromisesTest {
 
     /** An ENTRY of so many bytes, which are first, first + 1, .. (of each the lowest 8 bits). */
     private static void addEntry(VolumeSets x, int length, int first) {
-        for (int from = 0; from < length; from += 20) {
-            int[] v = new int[5];
-            for (int i = 0; i < 20; i++) {
-                v[i / 4] = v[i / 4] << 8 | (first + from + i & 255);
-            }
-            x.feed(v[0], v[1], v[2], v[3], v[4]);
-        }
-        if (length % 20 != 0) {
-            x.end(length % 20);
-        }
+        tape(x, row(length, first));
         due("bytes of the TAPE ahead of entry()", x.count(2), length);
         x.entry();
     }
 
     /** Entries without any other bytes than 0. */
     private static void addZeros(VolumeSets x, int length) {
-        for (int from = 0; from < length; from += 20) {
-            x.feed(0, 0, 0, 0, 0);
-        }
-        if (length % 20 != 0) {
-            x.end(length % 20);
-        }
-        x.entry();
-    }
-
-    private static int sum(int... bytes) {
-        int h = 5381;
-        for (int b : bytes) {
-            h = (33 * h ^ b) & 0xFFFF;
-        }
-        return h;
-    }
-
-    private static int times(int a, int b) {
-        int product = 0;
-        for (int k = 0; k < 8; k++) {
-            if ((b >> k & 1) == 1) {
-                product ^= a << k;
-            }
-        }
-        for (int k = 14; k >= 8; k--) {
-            if ((product >> k & 1) == 1) {
-                product ^= 0b100011101 << (k - 8);
-            }
-        }
-        return product;
-    }
-
-    private static int power(int exponent) {
-        int result = 1;
-        for (int k = 0; k < exponent; k++) {
-            result = times(result, 2);
-        }
-        return result;
-    }
-
-    /** Byte i of a SLOT, seen by xoring it twice. */
-    private static int peek(VolumeSets x, int slot, int i) {
-        x.poke(slot, i, 255);
-        return x.poke(slot, i, 255);
+        enter(x, new int[length]);
     }
 
     private static void change(VolumeSets x, int slot, int i, int to) {
@@ -125,28 +70,23 @@ final class PromisesTest {
 
     /** Makes both SUMs of a SLOT right. */
     private static void seal(VolumeSets x, int slot) {
-        int size = x.slot(slot, 5);
-        int[] body = new int[size - 12];
-        for (int i = 0; i < body.length; i++) {
-            body[i] = peek(x, slot, 12 + i);
-        }
-        change(x, slot, 8, sum(body) & 255);
-        change(x, slot, 9, sum(body) >> 8);
-        sealHead(x, slot);
-    }
-
-    private static void sealHead(VolumeSets x, int slot) {
-        int[] head = new int[10];
-        for (int i = 0; i < 10; i++) {
-            head[i] = peek(x, slot, i);
-        }
-        change(x, slot, 10, sum(head) & 255);
-        change(x, slot, 11, sum(head) >> 8);
+        changeSums(x, slot, sealed(bytesOf(x, slot)));
     }
 
     private static void forgeHead(VolumeSets x, int slot, int i, int to) {
         change(x, slot, i, to);
-        sealHead(x, slot);
+        int[] head = new int[HEAD];
+        for (int k = 0; k < 10; k++) {
+            head[k] = peek(x, slot, k);
+        }
+        changeSums(x, slot, headSealed(head));
+    }
+
+    /** The SUMs of a HEAD are made those of another row. */
+    private static void changeSums(VolumeSets x, int slot, int[] to) {
+        for (int i = 8; i < HEAD; i++) {
+            change(x, slot, i, to[i]);
+        }
     }
 
     // ---- the stream
