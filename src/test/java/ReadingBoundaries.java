@@ -212,6 +212,18 @@ final class ReadingBoundaries extends Sentences {
                 due("where(" + n + "), " + what, x.where(n), (gone >> n & 1) == 0 ? n : lost);
             }
         }
+        // One READING behind another: what was MADE AGAIN ahead does not count.
+        VolumeSets again = of(20, 3, 7, ENTRIES);
+        again.write(-1);
+        for (int[] gone : new int[][] {{4}, {0, 1}, {2}, {1, 2, 3}, {3, 4}, {0}}) {
+            for (int n : gone) {
+                again.lose(n);
+            }
+            inside("read(7), " + gone.length + " missing", again.read(7), 5);
+            inside("MADE AGAIN", again.found(3), gone.length);
+            gotten(gone.length + " missing", again, 0, STREAM);
+            again.write(-1);
+        }
         // A REPAIR that is there twice is one; one that is not OF IT is none.
         VolumeSets twice = read(FIVE[0], FIVE[1], FIVE[2], FIVE[5], FIVE[5], FIVE[5]);
         outside("2 missing, a REPAIR three times", twice.found(3), 0);
@@ -431,10 +443,11 @@ final class ReadingBoundaries extends Sentences {
 
     private static void startsBelowLengths() {
         int[] body = join(NOTHING, NOTHING, NOTHING);
-        int[] two = eight(2, 3, 0, 3, 0, body);
+        // VOLUME 2 begins with what is of an ENTRY ahead: the next one begins at 19.
+        int[] two = eight(2, 3, 0, 6, 3, body);
         // length, START of VOLUME 1, and the first place that is told
-        int[][] rows = {{8, 7, 15}, {8, 8, 16}, {7, 7, 16}, {7, 6, 14}, {1, 0, 8}, {1, 1, 16}, {0, 0, 16}, {3, 0, 8},
-            {3, 3, 16}, {8, 255, 16}, {8, 0, 8}};
+        int[][] rows = {{8, 7, 15}, {8, 8, 19}, {7, 7, 19}, {7, 6, 14}, {1, 0, 8}, {1, 1, 19}, {0, 0, 19}, {3, 0, 8},
+            {3, 3, 19}, {3, 2, 10}, {8, 9, 19}, {8, 254, 19}, {8, 255, 19}, {255, 255, 19}, {8, 0, 8}};
         for (int[] of : rows) {
             VolumeSets x = read(eight(1, 3, 0, of[0], of[1], body), two);
             String what = "a START of " + of[1] + " and a length of " + of[0];
@@ -481,6 +494,12 @@ final class ReadingBoundaries extends Sentences {
         told("place 8 of 8", read(eight(0, 1, 0, 8, 0, 5, 0, 0)), new int[] {0, 5, 0});
         told("place 258 of 8", read(eight(0, 1, 0, 8, 0, 255, 0, 0)), new int[] {0, 255, 0});
         told("no ENTRY", read(cut(20, 0, 7)[0]));
+        VolumeSets x = holding(eight(0, 1, 0, 6, 0, body), cut(20, 0, 8)[0]);
+        x.read(7);
+        told("two, READ ahead", x, new int[] {0, 0, 1}, new int[] {3, 0, 1});
+        x.read(8);
+        told("no ENTRY, two READ ahead", x);
+        due("no ENTRY, two READ ahead: opened(0, 0)", x.opened(0, 0), BAD);
         int[] far = volume(7, 59, 60, 0, 68, 67, all(255, 68));
         told("place 4079 of 4080", read(far), new int[] {4079, 255, 0});
     }
@@ -618,12 +637,13 @@ final class ReadingBoundaries extends Sentences {
             int[] third = volume(7, 2, 3, 0, of[0] - Math.min(60, of[0]), 255, twenty);
             VolumeSets x = read(first, second, third);
             String what = 60 + of[0] + " bytes are KNOWN";
-            inside(what + ": how many are told", x.found(4), of[1]);
+            boolean partly = of[0] == 58;
+            due(what + ": how many are told", x.found(4), of[1]);
+            due(what + ": OPENED", x.found(5), partly ? 39 : of[1]);
             inside(what + ": opened(38, 0)", x.opened(38, 0), 114);
             inside(what + ": opened(39, 0)", x.opened(39, 0), of[1] == 40 ? 117 : BAD);
-            inside(what + ": opened(39, 2)", x.opened(39, 2), of[1] == 39 ? BAD : of[0] == 58 ? 0 : 1);
+            inside(what + ": opened(39, 2)", x.opened(39, 2), of[1] == 39 ? BAD : partly ? 0 : 1);
             outside(what + ": opened(40, 0)", x.opened(40, 0), BAD);
-            outside(what + ": OPENED", x.found(5), of[0] == 58 ? 39 : of[1]);
         }
         // LOST ones count too.
         VolumeSets x = read(volume(7, 0, 2, 0, 68, 0, new int[68]), volume(7, 1, 2, 0, 68, 0, new int[68]));
@@ -640,8 +660,6 @@ final class ReadingBoundaries extends Sentences {
     }
 
     // ---- promises
-
-    private static final State RICH = SlotBoundaries.RICH;
 
     private static void read() {
         promise(15, "READING of a SET: how many of VOLUMES 0 .. m - 1 are OF IT or MADE AGAIN.");
@@ -661,6 +679,8 @@ final class ReadingBoundaries extends Sentences {
             return x;
         });
         stays("read(7), READ again", state, x -> x.read(7), 4);
+        leaves("read(8)", RICH, x -> x.read(8), NONE, Part.STREAM, Part.TAPE, Part.SLOTS);
+        leaves("read(7)", NOT_READ, x -> x.read(7), 2, Part.STREAM, Part.TAPE, Part.SLOTS);
     }
 
     private static void readBad() {

@@ -1,6 +1,8 @@
 import java.util.ArrayList;
 import java.util.Arrays;
+import java.util.EnumMap;
 import java.util.List;
+import java.util.Map;
 import java.util.function.Supplier;
 import java.util.function.ToIntFunction;
 
@@ -55,34 +57,47 @@ class Sentences extends Hands {
             Arrays.equals(got, want));
     }
 
-    // ---- calls that change nothing
+    // ---- what a call leaves as it was
+
+    /** What of an object is looked at. */
+    enum Part { STREAM, TAPE, SLOTS, READING }
 
     /** A way to make an object again and again, with what can be seen of it then. */
     static final class State {
         final Supplier<VolumeSets> made;
-        final String picture;
+        private final Map<Part, String> pictures = new EnumMap<>(Part.class);
 
         State(Supplier<VolumeSets> made) {
             this.made = made;
-            this.picture = pictureOf(made);
+            for (Part part : Part.values()) {
+                pictures.put(part, pictureOf(part, made));
+            }
         }
     }
 
     /** The call answers so, and all that can be seen of the object is then as if it had not come. */
     static void stays(String what, State state, ToIntFunction<VolumeSets> call, int want) {
+        leaves(what, state, call, want, Part.values());
+    }
+
+    /** The call answers so, and these parts are then as if it had not come. */
+    static void leaves(String what, State state, ToIntFunction<VolumeSets> call, int want, Part... parts) {
         due(what, call.applyAsInt(state.made.get()), want);
-        String behind = pictureOf(() -> {
-            VolumeSets x = state.made.get();
-            call.applyAsInt(x);
-            return x;
-        });
-        CHECKS.holds(sentence + ": " + what + " changes nothing", behind.equals(state.picture));
+        for (Part part : parts) {
+            String behind = pictureOf(part, () -> {
+                VolumeSets x = state.made.get();
+                call.applyAsInt(x);
+                return x;
+            });
+            boolean same = behind.equals(state.pictures.get(part));
+            CHECKS.holds(sentence + ": " + what + " leaves as it was: " + part, same);
+        }
     }
 
     /** Each portion is looked at on an object of its own, as one is good for 512 calls. */
-    static String pictureOf(Supplier<VolumeSets> made) {
+    private static String pictureOf(Part part, Supplier<VolumeSets> made) {
         StringBuilder picture = new StringBuilder();
-        for (List<ToIntFunction<VolumeSets>> portion : PORTIONS) {
+        for (List<ToIntFunction<VolumeSets>> portion : PORTIONS.get(part)) {
             VolumeSets x = made.get();
             for (ToIntFunction<VolumeSets> look : portion) {
                 picture.append(look.applyAsInt(x)).append(' ');
@@ -91,20 +106,75 @@ class Sentences extends Hands {
         return picture.toString();
     }
 
-    private static final List<List<ToIntFunction<VolumeSets>>> PORTIONS = portions();
+    private static final Map<Part, List<List<ToIntFunction<VolumeSets>>>> PORTIONS = Map.of(
+        Part.STREAM, List.of(ofStream()), Part.TAPE, List.of(ofTape()), Part.SLOTS, ofSlots(),
+        Part.READING, List.of(ofReading()));
 
-    private static List<List<ToIntFunction<VolumeSets>>> portions() {
-        List<List<ToIntFunction<VolumeSets>>> portions = new ArrayList<>();
-        portions.add(ofReading());
-        portions.add(ofStream());
-        portions.add(ofTape());
-        for (int from = 0; from < 60; from += 30) {
-            portions.add(ofSlots(from));
+    private static List<ToIntFunction<VolumeSets>> ofStream() {
+        List<ToIntFunction<VolumeSets>> looks = new ArrayList<>();
+        for (int what : new int[] {0, 1, 6, 7, 8}) {
+            looks.add(x -> x.count(what));
         }
-        for (int slot = 0; slot < 60; slot += 3) {
-            portions.add(ofBytes(slot));
+        looks.add(VolumeSets::volumes);
+        addBytes(looks);
+        return looks;
+    }
+
+    /** The TAPE is seen by making it the only ENTRY. */
+    private static List<ToIntFunction<VolumeSets>> ofTape() {
+        List<ToIntFunction<VolumeSets>> looks = new ArrayList<>();
+        looks.add(x -> x.count(2));
+        looks.add(x -> {
+            x.clear();
+            x.rule(0, 32);
+            x.rule(1, 0);
+            x.rule(2, 0);
+            return x.entry();
+        });
+        addBytes(looks);
+        return looks;
+    }
+
+    private static void addBytes(List<ToIntFunction<VolumeSets>> looks) {
+        for (int i = 0; i < 8 * 32; i++) {
+            int n = i / 32;
+            int place = i % 32;
+            looks.add(x -> x.byteOf(n, place));
+        }
+    }
+
+    private static List<List<ToIntFunction<VolumeSets>>> ofSlots() {
+        List<List<ToIntFunction<VolumeSets>>> portions = new ArrayList<>();
+        for (int from = 0; from < 60; from += 30) {
+            portions.add(ofStates(from, from + 30));
+        }
+        for (int from = 0; from < 60; from += 3) {
+            portions.add(ofBytes(from, from + 3));
         }
         return portions;
+    }
+
+    private static List<ToIntFunction<VolumeSets>> ofStates(int from, int to) {
+        List<ToIntFunction<VolumeSets>> looks = new ArrayList<>();
+        for (int what : new int[] {3, 4, 5}) {
+            looks.add(x -> x.count(what));
+        }
+        for (int i = from * 6; i < to * 6; i++) {
+            int slot = i / 6;
+            int what = i % 6;
+            looks.add(x -> x.slot(slot, what));
+        }
+        return looks;
+    }
+
+    private static List<ToIntFunction<VolumeSets>> ofBytes(int from, int to) {
+        List<ToIntFunction<VolumeSets>> looks = new ArrayList<>();
+        for (int i = from * 80; i < to * 80; i++) {
+            int slot = i / 80;
+            int place = i % 80;
+            looks.add(x -> x.poke(slot, place, 255));
+        }
+        return looks;
     }
 
     private static List<ToIntFunction<VolumeSets>> ofReading() {
@@ -127,51 +197,17 @@ class Sentences extends Hands {
         return looks;
     }
 
-    private static List<ToIntFunction<VolumeSets>> ofStream() {
-        List<ToIntFunction<VolumeSets>> looks = new ArrayList<>();
-        for (int i = 0; i < 9; i++) {
-            int what = i;
-            looks.add(x -> x.count(what));
-        }
-        looks.add(VolumeSets::volumes);
-        addBytes(looks);
-        return looks;
-    }
-
-    /** The TAPE is seen by making it the only ENTRY. */
-    private static List<ToIntFunction<VolumeSets>> ofTape() {
-        List<ToIntFunction<VolumeSets>> looks = new ArrayList<>();
-        looks.add(VolumeSets::clear);
-        looks.add(VolumeSets::entry);
-        addBytes(looks);
-        return looks;
-    }
-
-    private static void addBytes(List<ToIntFunction<VolumeSets>> looks) {
-        for (int i = 0; i < 8 * 32; i++) {
-            int n = i / 32;
-            int place = i % 32;
-            looks.add(x -> x.byteOf(n, place));
-        }
-    }
-
-    private static List<ToIntFunction<VolumeSets>> ofSlots(int from) {
-        List<ToIntFunction<VolumeSets>> looks = new ArrayList<>();
-        for (int i = from * 6; i < (from + 30) * 6; i++) {
-            int slot = i / 6;
-            int what = i % 6;
-            looks.add(x -> x.slot(slot, what));
-        }
-        return looks;
-    }
-
-    private static List<ToIntFunction<VolumeSets>> ofBytes(int from) {
-        List<ToIntFunction<VolumeSets>> looks = new ArrayList<>();
-        for (int i = from * 80; i < (from + 3) * 80; i++) {
-            int slot = i / 80;
-            int place = i % 80;
-            looks.add(x -> x.poke(slot, place, 255));
-        }
-        return looks;
-    }
+    /** Of all kinds: GOOD ones, a SPOILT one in SLOT 1, one without a HEAD in 8; READ, with a TAPE of 41. */
+    static final State RICH = new State(() -> {
+        VolumeSets x = of(24, 2, 7, row(20, 1), row(0, 0), row(15, 90));
+        // 44 bytes in PIECES of 12: 4 and 2.
+        x.write(-1);
+        x.copy(0, 8);
+        x.poke(1, 15, 1);
+        x.poke(8, 0, 1);
+        x.swap(2, 59);
+        x.read(7);
+        tape(x, row(41, 5));
+        return x;
+    });
 }

@@ -43,20 +43,6 @@ final class SlotBoundaries extends Sentences {
 
     private static final int[][] FOUR = cut(32, 2, 7, row(30, 1));
 
-    /** Of all kinds: GOOD ones, a SPOILT one in SLOT 1, one without a HEAD in 8; READ, with a TAPE of 41. */
-    static final State RICH = new State(() -> {
-        VolumeSets x = of(24, 2, 7, row(20, 1), row(0, 0), row(15, 90));
-        // 44 bytes in PIECES of 12: 4 and 2.
-        x.write(-1);
-        x.copy(0, 8);
-        x.poke(1, 15, 1);
-        x.poke(8, 0, 1);
-        x.swap(2, 59);
-        x.read(7);
-        tape(x, row(41, 5));
-        return x;
-    });
-
     /** SLOT 0 has a row: its STATE. */
     private static int state(int... row) {
         return holding(row).slot(0, 0);
@@ -137,6 +123,21 @@ final class SlotBoundaries extends Sentences {
         just.rule(0, 32);
         just.rule(2, 0);
         inside("write(-1), a SLOT has just the bytes", just.write(-1), 0);
+        // What was made at another SIZE leaves nothing behind the bytes.
+        VolumeSets sizes = of(80, 0, 0, row(60, 1));
+        sizes.write(-1);
+        sizes.rule(0, 20);
+        inside("write(-1), 8 of SIZE 20", sizes.write(-1), 8);
+        sizes.rule(0, 80);
+        sizes.rule(2, 77);
+        sizes.clear();
+        enter(sizes, row(60, 100));
+        sizes.byteOf(0, 0);
+        sizes.clear();
+        enter(sizes, row(60, 1));
+        sizes.rule(0, 20);
+        sizes.rule(2, 0);
+        inside("write(-1), all of SIZE 20 are there", sizes.write(-1), 0);
         // Another rule alone makes other bytes of it.
         for (int what = 0; what < 3; what++) {
             VolumeSets x = of(32, 0, 0);
@@ -362,6 +363,8 @@ final class SlotBoundaries extends Sentences {
         y.lose(58);
         due("write(-1), 3 into 3", y.write(-1), 3);
         due("write(-1), all are there", y.write(-1), 0);
+        leaves("write(-1)", RICH, z -> z.write(-1), 1, Part.STREAM, Part.TAPE, Part.READING);
+        leaves("write(0)", RICH, z -> z.write(0), 0, Part.STREAM, Part.TAPE, Part.READING);
     }
 
     private static void writeBad() {
@@ -457,6 +460,7 @@ final class SlotBoundaries extends Sentences {
         y.write(-1);
         y.lose(1);
         due("the others stay", y.count(4), 3);
+        leaves("lose(0)", RICH, z -> z.lose(0), 24, Part.STREAM, Part.TAPE, Part.READING);
     }
 
     private static void loseBad() {
@@ -486,6 +490,8 @@ final class SlotBoundaries extends Sentences {
         inside("poke(59, 79, 1)", x.poke(59, 79, 1), 254);
         inside("poke(59, 79, 254)", x.poke(59, 79, 254), 0);
         same("SLOT 0", bytesOf(x, 0), with(with(row(20, 0), 0, 1), 19, 236));
+        leaves("poke(0, 12, 1)", RICH, z -> z.poke(0, 12, 1), 21, Part.STREAM, Part.TAPE, Part.READING);
+        stays("poke(0, 12, 1) twice", RICH, z -> z.poke(0, 12, 1) + z.poke(0, 12, 1), 21 + 20);
     }
 
     private static void pokeBad() {
@@ -531,6 +537,8 @@ final class SlotBoundaries extends Sentences {
         inside("swap(59, 2)", x.swap(59, 2), 1);
         same("SLOT 59", bytesOf(x, 59), first);
         stays("swap(57, 58), nothing in both", RICH, y -> y.swap(57, 58), 1);
+        stays("swap(0, 59) and back", RICH, y -> y.swap(0, 59) + y.swap(0, 59), 2);
+        leaves("swap(0, 59)", RICH, y -> y.swap(0, 59), 1, Part.STREAM, Part.TAPE, Part.READING);
     }
 
     private static void swapBad() {
@@ -564,6 +572,8 @@ final class SlotBoundaries extends Sentences {
         VolumeSets noHead = holding(new int[20]);
         inside("copy(0, 1), without a HEAD", noHead.copy(0, 1), 20);
         inside("slot(1, 0)", noHead.slot(1, 0), 3);
+        leaves("copy(0, 2)", RICH, y -> y.copy(0, 2), 24, Part.STREAM, Part.TAPE, Part.READING);
+        stays("copy(0, 2), lost again", RICH, y -> y.copy(0, 2) + y.lose(2), 48);
     }
 
     private static void copyBad() {

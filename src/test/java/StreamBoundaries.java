@@ -1,4 +1,5 @@
 import java.util.Arrays;
+import java.util.function.ToIntFunction;
 
 /** The document's boundaries of the stream: promises 1 to 8, and the terms that they use. */
 final class StreamBoundaries extends Sentences {
@@ -339,6 +340,14 @@ final class StreamBoundaries extends Sentences {
         for (int n = 0; n < 5; n++) {
             same("VOLUME " + n + " of 2 and 3", allBytes(two, n), volumes[n]);
         }
+        // VOLUMES 0 .. m - 1 alone: there were more of them, at another SIZE.
+        VolumeSets fewer = of(20, 3, 0, row(60, 77));
+        due("byte 3 of the last of 8 and 3", fewer.byteOf(10, 3), 10);
+        fewer.rule(0, 32);
+        int[][] less = cut(32, 3, 0, row(60, 77));
+        for (int n = 0; n < less.length; n++) {
+            same("VOLUME " + n + " of 4 and 3", allBytes(fewer, n), less[n]);
+        }
         // The most: 57 and 3.
         int[][] entries = {row(60, 3), row(60, 100), row(60, 9), row(60, 77), row(60, 31), row(60, 1), row(60, 200),
             row(12, 40)};
@@ -411,6 +420,11 @@ final class StreamBoundaries extends Sentences {
         for (int i = 0; i < 23; i++) {
             due("byte " + i + " of 23", x.byteOf(0, 15 + i), i + 1);
         }
+        ToIntFunction<VolumeSets> behind21 = y -> {
+            y.end(0);
+            return y.feed(1, 2, 3, 4, 5);
+        };
+        leaves("feed behind 21", RICH, behind21, 41, Part.STREAM, Part.SLOTS, Part.READING);
     }
 
     private static void feedFull() {
@@ -446,6 +460,7 @@ final class StreamBoundaries extends Sentences {
                 same("the ENTRY", allBytes(x, 0), cut(80, 0, 0, row(bytes - 20 + n, 1))[0]);
             }
         }
+        leaves("end(7)", RICH, x -> x.end(7), 28, Part.STREAM, Part.SLOTS, Part.READING);
     }
 
     private static void endBad() {
@@ -486,6 +501,7 @@ final class StreamBoundaries extends Sentences {
         due("entry(), the TAPE is empty again", x.entry(), 2);
         due("bytes of THE STREAM", x.count(1), 3 + 63 + 3);
         due("feed, behind nothing", x.feed(1, 2, 3, 4, 5), 20);
+        leaves("entry()", RICH, VolumeSets::entry, 3, Part.SLOTS, Part.READING);
     }
 
     private static void entryFull() {
@@ -552,6 +568,7 @@ final class StreamBoundaries extends Sentences {
             due("entry()", x.entry(), 0);
             same("VOLUME 0", allBytes(x, 0), cut(24, 2, 7, row(13, 1))[0]);
         }
+        leaves("clear()", RICH, VolumeSets::clear, 3, Part.TAPE, Part.SLOTS, Part.READING);
     }
 
     private static void rule() {
@@ -570,6 +587,13 @@ final class StreamBoundaries extends Sentences {
         due("SIZE", x.count(6), 20);
         due("REPAIRS", x.count(7), 0);
         due("SET", x.count(8), 0);
+        leaves("rule(0, 80)", RICH, y -> y.rule(0, 80), 24, Part.TAPE, Part.SLOTS, Part.READING);
+        leaves("rule(1, 0)", RICH, y -> y.rule(1, 0), 2, Part.TAPE, Part.SLOTS, Part.READING);
+        leaves("rule(2, 8)", RICH, y -> y.rule(2, 8), 7, Part.TAPE, Part.SLOTS, Part.READING);
+        // Back again, all is as it was.
+        stays("rule(0, 24)", RICH, y -> y.rule(0, 80) + y.rule(0, 24), 24 + 80);
+        stays("rule(1, 2)", RICH, y -> y.rule(1, 0) + y.rule(1, 2), 2);
+        stays("rule(2, 7)", RICH, y -> y.rule(2, 8) + y.rule(2, 7), 7 + 8);
     }
 
     private static void ruleBad() {
