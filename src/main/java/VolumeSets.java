@@ -808,7 +808,7 @@ public final class VolumeSets {
                 return;
             }
             int[] row = rows[given];
-            for (int q = 0; q < unknowns; q++) {
+            for (int q = 0; q < unknowns && q < MOST_REPAIRS; q++) {
                 row[q] = Bytes.raised(1, j * numbers[q]);
             }
             for (int i = AT_LENGTH; i < repair.size && i < MOST_SIZE; i++) {
@@ -819,9 +819,9 @@ public final class VolumeSets {
 
         /** Behind it row q has the bytes of unknown q: no pivot is 0, as the numbers differ. */
         void solve() {
-            for (int q = 0; q < unknowns; q++) {
+            for (int q = 0; q < unknowns && q < MOST_REPAIRS; q++) {
                 scale(q, Bytes.inverse(rows[q][q]));
-                for (int other = 0; other < unknowns; other++) {
+                for (int other = 0; other < unknowns && other < MOST_REPAIRS; other++) {
                     if (other != q) {
                         addTo(other, q, rows[other][q]);
                     }
